@@ -251,6 +251,5 @@ public final class ModelTest {
                 checks.due(refusal + " came often", seen.getOrDefault(refusal, 0) >= 50);
             }
         }
-        System.out.println("ModelTest: " + seen);
     }
 }

@@ -44,6 +44,7 @@ public final class PromiseTest {
         told();
         packed();
         count();
+        allRoomUsed();
         checks.end("PromiseTest");
     }
 
@@ -753,5 +754,34 @@ public final class PromiseTest {
         due("19 none held", x.count(2), 0);
         due("19 one closed", x.count(3), 1);
         due("19 numbers", a + 10 * b + 100 * r, 310);
+    }
+
+    /** Forty batches of eight entries, held and posted: the last entry of all is read and written as the first. */
+    private static void allRoomUsed() {
+        MoveRows x = new MoveRows();
+        for (int b = 0; b < 40; b++) {
+            x.batch();
+            for (int i = 0; i < 4; i++) {
+                x.entry(b, 0, 7, -1000000);
+                x.entry(b, 15, 7, 1000000);
+            }
+        }
+        x.hold(0);
+        x.hold(39);
+        due("19 the first and the last are held", x.count(2), 2);
+        for (int b = 0; b < 40; b++) {
+            x.post(b, b);
+        }
+        due("12 the most", x.stock(15, 7), 160000000);
+        due("12 the least", x.stock(0, 7), -160000000);
+        due("13 half of it", x.upTo(15, 7, 19), 80000000);
+        due("13 all of it", x.upTo(15, 7, 39), 160000000);
+        due("16 the last row", x.row(15, 159, 0), 39);
+        refused("16 no row more", NONE_SUCH, () -> x.row(15, 160, 0));
+        due("18 the last entry", x.packed(39, 7), 128000127);
+        due("19 all entries", x.count(1), 320);
+        refused("9 no room for one", ROOM, () -> x.undo(39));
+        refused("8 no room for one", ROOM, () -> x.reverse(39, 39));
+        due("11 the most", x.carry(15, 2), 160000000);
     }
 }
