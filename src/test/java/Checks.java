@@ -9,6 +9,22 @@ final class Checks {
 
     private int wrong = 0;
     private int made = 0;
+    private int sentences = 0;
+    private String sentence = "";
+
+    /** The test of one sentence of the document: it stands alone, and the sentence is told with what is wrong. */
+    void sentence(String words, Step test) {
+        int before = made;
+        sentence = "\"" + words + "\": ";
+        sentences++;
+        try {
+            test.run();
+        } catch (RuntimeException e) {
+            tell("the test was ended by " + e);
+        }
+        due("calls were looked at", made > before);
+        sentence = "";
+    }
 
     void due(String what, long got, long want) {
         made++;
@@ -52,12 +68,13 @@ final class Checks {
     private void tell(String line) {
         wrong++;
         if (wrong <= 50) {
-            System.out.println(line);
+            System.out.println(sentence + line);
         }
     }
 
     void end(String test) {
-        System.out.println(test + ": " + made + " answers, " + wrong + " not as due");
+        String of = sentences == 0 ? "" : sentences + " sentences, ";
+        System.out.println(test + ": " + of + made + " answers, " + wrong + " not as due");
         if (wrong != 0) {
             System.exit(1);
         }

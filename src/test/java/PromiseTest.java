@@ -8,11 +8,6 @@ public final class PromiseTest {
     private static final Class<UnsupportedOperationException> ROOM = UnsupportedOperationException.class;
     private static final int MIN = Integer.MIN_VALUE;
     private static final int MAX = Integer.MAX_VALUE;
-    private static final int OPEN = 0;
-    private static final int HELD = 1;
-    private static final int POSTED = 2;
-    private static final int REVERSED = 3;
-    private static final int DROPPED = 4;
 
     private static final Checks checks = new Checks();
 
@@ -48,20 +43,6 @@ public final class PromiseTest {
         checks.end("PromiseTest");
     }
 
-    /** An open batch that moves n of a lot between two accounts. */
-    private static int move(MoveRows x, int from, int to, int lot, int n) {
-        int b = x.batch();
-        x.entry(b, from, lot, -n);
-        x.entry(b, to, lot, n);
-        return b;
-    }
-
-    private static int moved(MoveRows x, int from, int to, int lot, int n, int day) {
-        int b = move(x, from, to, lot, n);
-        x.post(b, day);
-        return b;
-    }
-
     private static void due(String what, long got, long want) {
         checks.due(what, got, want);
     }
@@ -84,7 +65,7 @@ public final class PromiseTest {
         }
         refused("1 no batch", NONE_SUCH, () -> x.told(0, 0));
         MoveRows y = new MoveRows();
-        moved(y, 0, 1, 0, 5, 0);
+        Moves.posted(y, 0, 1, 0, 5, 0);
         due("1 objects are apart", x.stock(1, 0), 0);
         due("1 day 0 is open", y.stock(1, 0), 5);
     }
@@ -93,7 +74,7 @@ public final class PromiseTest {
         MoveRows x = new MoveRows();
         for (int b = 0; b < 40; b++) {
             due("2 batch", x.batch(), b);
-            due("2 is open", x.told(b, 0), OPEN);
+            due("2 is open", x.told(b, 0), Moves.OPEN);
             due("2 is empty", x.told(b, 1), 0);
         }
         refused("2 forty", ROOM, x::batch);
@@ -123,7 +104,7 @@ public final class PromiseTest {
     private static void entryRefusals() {
         MoveRows x = new MoveRows();
         refused("3 no batch before range", NONE_SUCH, () -> x.entry(0, 16, 8, 0));
-        int b = move(x, 0, 1, 0, 1);
+        int b = Moves.open(x, 0, 1, 0, 1);
         for (int bad : new int[] {-1, 1, 40, MIN, MAX}) {
             refused("3 batch", NONE_SUCH, () -> x.entry(bad, 0, 0, 1));
         }
@@ -156,26 +137,26 @@ public final class PromiseTest {
 
     private static void hold() {
         MoveRows x = new MoveRows();
-        moved(x, 0, 3, 2, 10, 0);
+        Moves.posted(x, 0, 3, 2, 10, 0);
         int b = x.batch();
         x.entry(b, 3, 2, -9);
         x.entry(b, 3, 2, 2);
         x.entry(b, 12, 2, 7);
         x.hold(b);
-        due("4 held", x.told(b, 0), HELD);
+        due("4 held", x.told(b, 0), Moves.HELD);
         due("4 the net is held", x.available(3, 2), 3);
         due("4 what comes is not free yet", x.available(12, 2), 0);
         due("4 stock stays", x.stock(3, 2), 10);
         due("4 count", x.count(2), 1);
-        int c = move(x, 3, 4, 2, 3);
+        int c = Moves.open(x, 3, 4, 2, 3);
         x.hold(c);
         due("4 all is held", x.available(3, 2), 0);
         due("4 two held", x.count(2), 2);
-        int d = move(x, 0, 5, 6, 1000000);
+        int d = Moves.open(x, 0, 5, 6, 1000000);
         x.hold(d);
         due("4 outside holds nothing", x.available(0, 6), 0);
         due("4 never posted", x.told(b, 2), -1);
-        int e = move(x, 7, 7, 2, 5);
+        int e = Moves.open(x, 7, 7, 2, 5);
         x.hold(e);
         due("4 a net of nothing holds nothing", x.available(7, 2), 0);
     }
@@ -190,18 +171,18 @@ public final class PromiseTest {
         x.entry(empty, 1, 0, 5);
         x.entry(empty, 2, 1, -5);
         refused("4 each lot for itself", STATE, () -> x.hold(empty));
-        int b = move(x, 1, 2, 0, 5);
+        int b = Moves.open(x, 1, 2, 0, 5);
         refused("4 nothing free", ROOM, () -> x.hold(b));
-        due("4 stays open", x.told(b, 0), OPEN);
-        moved(x, 0, 1, 0, 4, 0);
+        due("4 stays open", x.told(b, 0), Moves.OPEN);
+        Moves.posted(x, 0, 1, 0, 4, 0);
         refused("4 one too few", ROOM, () -> x.hold(b));
-        moved(x, 0, 1, 1, 50, 0);
+        Moves.posted(x, 0, 1, 1, 50, 0);
         refused("4 another lot is no help", ROOM, () -> x.hold(b));
-        moved(x, 0, 1, 0, 1, 0);
+        Moves.posted(x, 0, 1, 0, 1, 0);
         x.hold(b);
         refused("4 held already", STATE, () -> x.hold(b));
         due("4 held once", x.available(1, 0), 0);
-        int c = move(x, 1, 2, 0, 1);
+        int c = Moves.open(x, 1, 2, 0, 1);
         refused("4 the rest is held", ROOM, () -> x.hold(c));
         x.drop(c);
         refused("4 dropped", STATE, () -> x.hold(c));
@@ -212,13 +193,13 @@ public final class PromiseTest {
     private static void free() {
         MoveRows x = new MoveRows();
         refused("5 no batch", NONE_SUCH, () -> x.free(0));
-        moved(x, 0, 1, 0, 5, 0);
-        int b = move(x, 1, 2, 0, 5);
+        Moves.posted(x, 0, 1, 0, 5, 0);
+        int b = Moves.open(x, 1, 2, 0, 5);
         refused("5 open", STATE, () -> x.free(b));
         refused("5 negative", NONE_SUCH, () -> x.free(-1));
         x.hold(b);
         x.free(b);
-        due("5 open again", x.told(b, 0), OPEN);
+        due("5 open again", x.told(b, 0), Moves.OPEN);
         due("5 free again", x.available(1, 0), 5);
         due("5 none held", x.count(2), 0);
         due("5 takes entries", x.entry(b, 0, 0, 1), 3);
@@ -231,12 +212,12 @@ public final class PromiseTest {
     private static void drop() {
         MoveRows x = new MoveRows();
         refused("6 no batch", NONE_SUCH, () -> x.drop(0));
-        moved(x, 0, 1, 0, 5, 0);
-        int b = move(x, 1, 2, 0, 5);
+        Moves.posted(x, 0, 1, 0, 5, 0);
+        int b = Moves.open(x, 1, 2, 0, 5);
         refused("6 one more", NONE_SUCH, () -> x.drop(2));
         x.hold(b);
         x.drop(b);
-        due("6 dropped", x.told(b, 0), DROPPED);
+        due("6 dropped", x.told(b, 0), Moves.DROPPED);
         due("6 free again", x.available(1, 0), 5);
         due("6 none held", x.count(2), 0);
         due("6 entries stay", x.told(b, 1), 2);
@@ -245,7 +226,7 @@ public final class PromiseTest {
         refused("6 posted", STATE, () -> x.drop(0));
         int c = x.batch();
         x.drop(c);
-        due("6 an open one", x.told(c, 0), DROPPED);
+        due("6 an open one", x.told(c, 0), Moves.DROPPED);
         due("6 free stays", x.available(1, 0), 5);
         x.reverse(0, 0);
         refused("6 reversed", STATE, () -> x.drop(0));
@@ -254,23 +235,23 @@ public final class PromiseTest {
 
     private static void post() {
         MoveRows x = new MoveRows();
-        int a = moved(x, 0, 1, 0, 5, 1000);
-        due("7 posted", x.told(a, 0), POSTED);
+        int a = Moves.posted(x, 0, 1, 0, 5, 1000);
+        due("7 posted", x.told(a, 0), Moves.POSTED);
         due("7 day", x.told(a, 2), 1000);
         due("7 stock", x.stock(1, 0), 5);
         due("7 outside", x.stock(0, 0), -5);
-        int b = move(x, 1, 2, 0, 5);
+        int b = Moves.open(x, 1, 2, 0, 5);
         x.hold(b);
         x.post(b, 0);
         due("7 its own hold is free for it", x.stock(2, 0), 5);
         due("7 the hold is gone", x.available(1, 0), 0);
         due("7 none held", x.count(2), 0);
         due("7 an earlier day", x.told(b, 2), 0);
-        int c = move(x, 2, 3, 0, 3);
+        int c = Moves.open(x, 2, 3, 0, 3);
         x.hold(c);
-        int d = move(x, 2, 4, 0, 3);
+        int d = Moves.open(x, 2, 4, 0, 3);
         refused("7 another's hold is not free", ROOM, () -> x.post(d, 0));
-        due("7 stays open", x.told(d, 0), OPEN);
+        due("7 stays open", x.told(d, 0), Moves.OPEN);
         due("7 no day", x.told(d, 2), -1);
         due("7 no entries", x.count(1), 4);
         x.free(c);
@@ -301,7 +282,7 @@ public final class PromiseTest {
         refused("7 not sound", STATE, () -> x.post(c, 3));
         x.entry(c, 15, 5, 2000);
         refused("7 still too much", ROOM, () -> x.post(c, 3));
-        int d = move(x, 1, 0, 0, 2);
+        int d = Moves.open(x, 1, 0, 0, 2);
         x.post(d, 3);
         due("7 all of it may go", x.stock(1, 0), 0);
         due("7 outside has it", x.stock(0, 0), 0);
@@ -322,7 +303,7 @@ public final class PromiseTest {
         x.close(4);
         refused("7 closed before what is free", STATE, () -> x.post(b, 4));
         refused("7 the day after is open", ROOM, () -> x.post(b, 5));
-        int c = move(x, 0, 1, 0, 5);
+        int c = Moves.open(x, 0, 1, 0, 5);
         refused("7 closed", STATE, () -> x.post(c, 0));
         x.post(c, 5);
         refused("7 twice", STATE, () -> x.post(c, 5));
@@ -330,7 +311,7 @@ public final class PromiseTest {
         x.hold(b);
         refused("7 closed for a held one", STATE, () -> x.post(b, 4));
         due("7 its hold stays", x.available(1, 0), 0);
-        due("7 it stays held", x.told(b, 0), HELD);
+        due("7 it stays held", x.told(b, 0), Moves.HELD);
         x.drop(b);
         refused("7 dropped", STATE, () -> x.post(b, 5));
         x.reverse(c, 5);
@@ -346,11 +327,11 @@ public final class PromiseTest {
         x.post(a, 10);
         int b = x.reverse(a, 10);
         due("8 number", b, 1);
-        due("8 reversed", x.told(a, 0), REVERSED);
+        due("8 reversed", x.told(a, 0), Moves.REVERSED);
         due("8 its day stays", x.told(a, 2), 10);
         due("8 reversed by", x.told(a, 3), b);
         due("8 reverses nothing", x.told(a, 4), -1);
-        due("8 the other is posted", x.told(b, 0), POSTED);
+        due("8 the other is posted", x.told(b, 0), Moves.POSTED);
         due("8 its entries", x.told(b, 1), 3);
         due("8 its day", x.told(b, 2), 10);
         due("8 not reversed", x.told(b, 3), -1);
@@ -362,8 +343,8 @@ public final class PromiseTest {
         due("8 outside", x.stock(0, 1), 0);
         due("8 entries posted", x.count(1), 6);
         int c = x.reverse(b, 12);
-        due("8 a reversing one too", x.told(b, 0), REVERSED);
-        due("8 the first stays reversed", x.told(a, 0), REVERSED);
+        due("8 a reversing one too", x.told(b, 0), Moves.REVERSED);
+        due("8 the first stays reversed", x.told(a, 0), Moves.REVERSED);
         due("8 by the same", x.told(a, 3), b);
         due("8 the third reverses the second", x.told(c, 4), b);
         due("8 stock is back", x.stock(4, 1), 7);
@@ -373,7 +354,7 @@ public final class PromiseTest {
     private static void reverseRefusals() {
         MoveRows x = new MoveRows();
         refused("8 no batch before range", NONE_SUCH, () -> x.reverse(0, 1001));
-        int a = move(x, 0, 4, 1, 7);
+        int a = Moves.open(x, 0, 4, 1, 7);
         refused("8 open", STATE, () -> x.reverse(a, 0));
         x.hold(a);
         refused("8 held", STATE, () -> x.reverse(a, 0));
@@ -384,11 +365,11 @@ public final class PromiseTest {
         refused("8 before its own", STATE, () -> x.reverse(a, 9));
         x.close(11);
         refused("8 closed", STATE, () -> x.reverse(a, 11));
-        int b = move(x, 4, 5, 1, 1);
+        int b = Moves.open(x, 4, 5, 1, 1);
         x.hold(b);
         refused("8 one is held", ROOM, () -> x.reverse(a, 12));
         refused("8 state before what is free", STATE, () -> x.reverse(a, 9));
-        due("8 stays posted", x.told(a, 0), POSTED);
+        due("8 stays posted", x.told(a, 0), Moves.POSTED);
         due("8 no reversal", x.told(a, 3), -1);
         due("8 no batch more", x.count(0), 2);
         due("8 no entry more", x.count(1), 2);
@@ -402,7 +383,7 @@ public final class PromiseTest {
         due("8 stock stays", x.stock(4, 1), 7);
 
         MoveRows y = new MoveRows();
-        moved(y, 0, 4, 1, 7, 0);
+        Moves.posted(y, 0, 4, 1, 7, 0);
         for (int i = 1; i < 39; i++) {
             y.batch();
         }
@@ -413,39 +394,39 @@ public final class PromiseTest {
     private static void undo() {
         MoveRows x = new MoveRows();
         due("9 nothing there", x.undo(0), 0);
-        int a = moved(x, 0, 1, 0, 9, 2);
-        int other = moved(x, 0, 1, 0, 1, 3);
-        int b = moved(x, 1, 2, 0, 4, 2);
-        int early = moved(x, 0, 1, 0, 1, 1);
-        int gone = moved(x, 0, 6, 6, 6, 2);
+        int a = Moves.posted(x, 0, 1, 0, 9, 2);
+        int other = Moves.posted(x, 0, 1, 0, 1, 3);
+        int b = Moves.posted(x, 1, 2, 0, 4, 2);
+        int early = Moves.posted(x, 0, 1, 0, 1, 1);
+        int gone = Moves.posted(x, 0, 6, 6, 6, 2);
         int reversal = x.reverse(gone, 2);
-        int open = move(x, 0, 1, 0, 1);
-        int held = move(x, 0, 1, 0, 1);
+        int open = Moves.open(x, 0, 1, 0, 1);
+        int held = Moves.open(x, 0, 1, 0, 1);
         x.hold(held);
         due("9 two", x.undo(2), 2);
         due("9 last first", x.told(b, 3), 8);
         due("9 first last", x.told(a, 3), 9);
         due("9 their day", x.told(9, 2), 2);
         due("9 they reverse", x.told(8, 4), b);
-        due("9 they are posted", x.told(9, 0), POSTED);
-        due("9 reversed", x.told(a, 0), REVERSED);
-        due("9 another day stays", x.told(other, 0), POSTED);
-        due("9 an earlier day stays", x.told(early, 0), POSTED);
-        due("9 a reversing one stays", x.told(reversal, 0), POSTED);
-        due("9 an open one stays", x.told(open, 0), OPEN);
-        due("9 a held one stays", x.told(held, 0), HELD);
+        due("9 they are posted", x.told(9, 0), Moves.POSTED);
+        due("9 reversed", x.told(a, 0), Moves.REVERSED);
+        due("9 another day stays", x.told(other, 0), Moves.POSTED);
+        due("9 an earlier day stays", x.told(early, 0), Moves.POSTED);
+        due("9 a reversing one stays", x.told(reversal, 0), Moves.POSTED);
+        due("9 an open one stays", x.told(open, 0), Moves.OPEN);
+        due("9 a held one stays", x.told(held, 0), Moves.HELD);
         due("9 stock", x.stock(1, 0), 2);
         due("9 none again", x.undo(2), 0);
         due("9 ten batches", x.count(0), 10);
         int again = x.reverse(reversal, 2);
         due("9 one that reverses a reversing one is one too", x.undo(2), 0);
-        due("9 it stays", x.told(again, 0), POSTED);
+        due("9 it stays", x.told(again, 0), Moves.POSTED);
     }
 
     private static void undoOrder() {
         MoveRows x = new MoveRows();
-        int second = move(x, 1, 2, 0, 5);
-        int first = move(x, 0, 1, 0, 5);
+        int second = Moves.open(x, 1, 2, 0, 5);
+        int first = Moves.open(x, 0, 1, 0, 5);
         x.post(first, 7);
         x.post(second, 7);
         due("9 by posting, not by number", x.undo(7), 2);
@@ -454,18 +435,18 @@ public final class PromiseTest {
 
         // Only the other order could work here: the later batch gave what has left since.
         MoveRows y = new MoveRows();
-        moved(y, 0, 1, 0, 10, 0);
-        moved(y, 1, 0, 0, 10, 5);
-        moved(y, 0, 1, 0, 10, 5);
-        moved(y, 1, 2, 0, 10, 6);
+        Moves.posted(y, 0, 1, 0, 10, 0);
+        Moves.posted(y, 1, 0, 0, 10, 5);
+        Moves.posted(y, 0, 1, 0, 10, 5);
+        Moves.posted(y, 1, 2, 0, 10, 6);
         refused("9 the last comes first", ROOM, () -> y.undo(5));
-        due("9 none is", y.told(1, 0), POSTED);
+        due("9 none is", y.told(1, 0), Moves.POSTED);
         due("9 no batch more", y.count(0), 4);
 
         // The later reversal gives back what the earlier batch's reversal takes.
         MoveRows z = new MoveRows();
-        moved(z, 0, 1, 0, 10, 5);
-        moved(z, 1, 2, 0, 10, 5);
+        Moves.posted(z, 0, 1, 0, 10, 5);
+        Moves.posted(z, 1, 2, 0, 10, 5);
         due("9 one makes room for the next", z.undo(5), 2);
         due("9 all is back", z.stock(0, 0), 0);
     }
@@ -475,12 +456,12 @@ public final class PromiseTest {
         for (int bad : new int[] {-1, 1001, MIN, MAX}) {
             refused("9 day", RANGE, () -> x.undo(bad));
         }
-        moved(x, 0, 1, 0, 5, 4);
-        moved(x, 0, 2, 0, 5, 4);
-        int held = move(x, 1, 3, 0, 1);
+        Moves.posted(x, 0, 1, 0, 5, 4);
+        Moves.posted(x, 0, 2, 0, 5, 4);
+        int held = Moves.open(x, 1, 3, 0, 1);
         x.hold(held);
         refused("9 the second can't be", ROOM, () -> x.undo(4));
-        due("9 the first is not", x.told(1, 0), POSTED);
+        due("9 the first is not", x.told(1, 0), Moves.POSTED);
         due("9 not reversed by", x.told(1, 3), -1);
         due("9 stock stays", x.stock(2, 0), 5);
         due("9 entries stay", x.count(1), 4);
@@ -495,20 +476,20 @@ public final class PromiseTest {
 
     private static void undoRoom() {
         MoveRows x = new MoveRows();
-        moved(x, 0, 1, 0, 5, 4);
-        moved(x, 0, 1, 0, 5, 4);
+        Moves.posted(x, 0, 1, 0, 5, 4);
+        Moves.posted(x, 0, 1, 0, 5, 4);
         for (int i = 2; i < 39; i++) {
             x.batch();
         }
         refused("9 room for one", ROOM, () -> x.undo(4));
-        due("9 none is", x.told(1, 0), POSTED);
+        due("9 none is", x.told(1, 0), Moves.POSTED);
         due("9 thirty-nine", x.count(0), 39);
         x.batch();
         due("9 an empty day needs no room", x.undo(5), 0);
 
         MoveRows y = new MoveRows();
         for (int i = 0; i < 20; i++) {
-            moved(y, 0, 1, i % 8, 1000000, 1000);
+            Moves.posted(y, 0, 1, i % 8, 1000000, 1000);
         }
         due("9 forty in all", y.undo(1000), 20);
         due("9 all room is used", y.count(0), 40);
@@ -526,7 +507,7 @@ public final class PromiseTest {
         due("10 three more", x.close(3), 3);
         due("10 before", x.close(2), 0);
         due("10 four", x.count(3), 4);
-        int b = move(x, 0, 1, 0, 1);
+        int b = Moves.open(x, 0, 1, 0, 1);
         refused("10 closed", STATE, () -> x.post(b, 3));
         x.post(b, 4);
         due("10 all", x.close(1000), 997);
@@ -546,10 +527,10 @@ public final class PromiseTest {
             int c = container;
             refused("11 all stand at 1", STATE, () -> x.carry(c, 1));
         }
-        moved(x, 0, 15, 0, 3, 0);
-        moved(x, 0, 15, 7, 4, 0);
-        moved(x, 0, 14, 7, 9, 0);
-        int held = move(x, 15, 2, 7, 4);
+        Moves.posted(x, 0, 15, 0, 3, 0);
+        Moves.posted(x, 0, 15, 7, 4, 0);
+        Moves.posted(x, 0, 14, 7, 9, 0);
+        int held = Moves.open(x, 15, 2, 7, 4);
         x.hold(held);
         due("11 all lots, held or not", x.carry(15, 9), 7);
         due("11 the lot came along", x.at(9, 7), 4);
@@ -570,13 +551,13 @@ public final class PromiseTest {
             refused("12 lot", RANGE, () -> x.stock(0, bad));
         }
         for (int i = 0; i < 20; i++) {
-            moved(x, 0, 15, 7, 1000000, i);
+            Moves.posted(x, 0, 15, 7, 1000000, i);
         }
         due("12 a container's", x.stock(15, 7), 20000000);
         due("12 outside's", x.stock(0, 7), -20000000);
         due("12 another lot", x.stock(15, 6), 0);
         due("12 another account", x.stock(14, 7), 0);
-        move(x, 15, 1, 7, 5);
+        Moves.open(x, 15, 1, 7, 5);
         due("12 only what is posted", x.stock(15, 7), 20000000);
     }
 
@@ -591,9 +572,9 @@ public final class PromiseTest {
         for (int bad : new int[] {-1, 1001, MIN, MAX}) {
             refused("13 day", RANGE, () -> x.upTo(0, 0, bad));
         }
-        moved(x, 0, 1, 0, 100, 500);
-        int b = moved(x, 1, 2, 0, 30, 0);
-        moved(x, 0, 1, 1, 7, 0);
+        Moves.posted(x, 0, 1, 0, 100, 500);
+        int b = Moves.posted(x, 1, 2, 0, 30, 0);
+        Moves.posted(x, 0, 1, 1, 7, 0);
         due("13 below nothing on an earlier day", x.upTo(1, 0, 0), -30);
         due("13 the day before", x.upTo(1, 0, 499), -30);
         due("13 the day itself", x.upTo(1, 0, 500), 70);
@@ -612,13 +593,13 @@ public final class PromiseTest {
         for (int bad : new int[] {-1, 8, MIN, MAX}) {
             refused("14 lot", RANGE, () -> x.available(0, bad));
         }
-        moved(x, 0, 1, 0, 10, 0);
-        int b = move(x, 1, 0, 0, 4);
+        Moves.posted(x, 0, 1, 0, 10, 0);
+        int b = Moves.open(x, 1, 0, 0, 4);
         due("14 an open one holds nothing", x.available(1, 0), 10);
         x.hold(b);
         due("14 less what is held", x.available(1, 0), 6);
         due("14 outside's stock", x.available(0, 0), -10);
-        int c = move(x, 0, 1, 0, 4);
+        int c = Moves.open(x, 0, 1, 0, 4);
         x.hold(c);
         due("14 outside's stock with a hold", x.available(0, 0), -10);
         due("14 what is to come is not there", x.available(1, 0), 6);
@@ -636,11 +617,11 @@ public final class PromiseTest {
         for (int bad : new int[] {-1, 8, MIN, MAX}) {
             refused("15 lot", RANGE, () -> x.at(1, bad));
         }
-        moved(x, 0, 1, 7, 1, 0);
-        moved(x, 0, 9, 7, 20, 0);
-        moved(x, 0, 10, 7, 300, 0);
-        moved(x, 0, 15, 7, 4000, 0);
-        moved(x, 0, 15, 6, 50000, 0);
+        Moves.posted(x, 0, 1, 7, 1, 0);
+        Moves.posted(x, 0, 9, 7, 20, 0);
+        Moves.posted(x, 0, 10, 7, 300, 0);
+        Moves.posted(x, 0, 15, 7, 4000, 0);
+        Moves.posted(x, 0, 15, 6, 50000, 0);
         due("15 with its containers", x.at(1, 7), 4301);
         due("15 alone", x.at(9, 7), 20);
         x.carry(15, 9);
@@ -648,13 +629,13 @@ public final class PromiseTest {
         due("15 one came", x.at(9, 7), 4020);
         due("15 the other lot", x.at(9, 6), 50000);
         due("15 nothing", x.at(5, 7), 0);
-        x.hold(move(x, 15, 3, 7, 4000));
+        x.hold(Moves.open(x, 15, 3, 7, 4000));
         due("15 the stock, held or not", x.at(9, 7), 4020);
     }
 
     private static void row() {
         MoveRows x = new MoveRows();
-        int b = move(x, 0, 1, 3, 6);
+        int b = Moves.open(x, 0, 1, 3, 6);
         int a = x.batch();
         x.entry(a, 1, 2, 5);
         x.entry(a, 0, 2, -5);
@@ -686,7 +667,7 @@ public final class PromiseTest {
         MoveRows x = new MoveRows();
         refused("17 batch before what", NONE_SUCH, () -> x.told(0, 5));
         int b = x.batch();
-        int[] due = {OPEN, 0, -1, -1, -1};
+        int[] due = {Moves.OPEN, 0, -1, -1, -1};
         for (int what = 0; what < 5; what++) {
             due("17 new " + what, x.told(b, what), due[what]);
         }
@@ -697,9 +678,9 @@ public final class PromiseTest {
             refused("17 batch", NONE_SUCH, () -> x.told(bad, 0));
         }
         x.drop(b);
-        due("17 dropped", x.told(b, 0), DROPPED);
+        due("17 dropped", x.told(b, 0), Moves.DROPPED);
         due("17 a dropped one has no day", x.told(b, 2), -1);
-        int c = moved(x, 0, 1, 0, 1, 0);
+        int c = Moves.posted(x, 0, 1, 0, 1, 0);
         due("17 day 0", x.told(c, 2), 0);
         due("17 two entries", x.told(c, 1), 2);
         int r = x.reverse(c, 8);
@@ -735,9 +716,9 @@ public final class PromiseTest {
         for (int bad : new int[] {-1, 4, MIN, MAX}) {
             due("19 another what", x.count(bad), -1);
         }
-        int a = moved(x, 0, 1, 0, 5, 0);
-        int b = move(x, 1, 2, 0, 1);
-        int c = move(x, 1, 2, 0, 1);
+        int a = Moves.posted(x, 0, 1, 0, 5, 0);
+        int b = Moves.open(x, 1, 2, 0, 1);
+        int c = Moves.open(x, 1, 2, 0, 1);
         x.hold(b);
         x.hold(c);
         due("19 batches", x.count(0), 3);
